@@ -5,8 +5,21 @@ import java.util.function.Supplier;
 final class Due {
     private static int wrong = 0;
     private static int checked = 0;
+    private static int sentences = 0;
+    private static String sentence = "";
+
+    /** A call with one of its arguments left open. */
+    interface CallWith {
+        void call(Orbitregister x, int value);
+    }
 
     private Due() {
+    }
+
+    /** The sentence of the document that the checks behind this are for. */
+    static void sentence(String text) {
+        sentence = "[" + text + "] ";
+        sentences++;
     }
 
     static void answer(String what, long got, long want) {
@@ -20,24 +33,16 @@ final class Due {
         answer(what, got ? 1 : 0, want ? 1 : 0);
     }
 
+    /** What a filing is, asked in both ways. */
+    static void state(String what, Orbitregister x, int filing, int want) {
+        answer(what, x.filingOf(filing, 5), want);
+        answer(what + ", anew", x.stateAnew(filing), want);
+    }
+
     static void same(String what, String got, String want) {
         checked++;
         if (!got.equals(want)) {
             tell(what + " answered\n  " + got + "\n due is\n  " + want);
-        }
-    }
-
-    /** The very class of the exception is due: the machine's own ones are classes below. */
-    static void thrown(String what, Class<? extends RuntimeException> want, Runnable call) {
-        checked++;
-        Class<?> got = null;
-        try {
-            call.run();
-        } catch (RuntimeException e) {
-            got = e.getClass();
-        }
-        if (got != want) {
-            tell(what + " threw " + got + ", due is " + want);
         }
     }
 
@@ -53,16 +58,56 @@ final class Due {
         refused(what, IllegalStateException.class, made, call);
     }
 
-    /** The call throws, and afterwards the object answers like one that was never called so. */
+    /** Refused on both sides of a range: right outside it, and as far as an int goes. */
+    static void outOfBounds(String what, int low, int high, Supplier<Orbitregister> made, CallWith call) {
+        for (int value : outside(low, high)) {
+            outOfBounds(what + " " + value, made, x -> call.call(x, value));
+        }
+    }
+
+    static void illegalArgument(String what, int low, int high, Supplier<Orbitregister> made, CallWith call) {
+        for (int value : outside(low, high)) {
+            illegalArgument(what + " " + value, made, x -> call.call(x, value));
+        }
+    }
+
+    /** The calls change nothing: afterwards the object answers like one that was never called so. */
+    static void unchanged(String what, Supplier<Orbitregister> made, Consumer<Orbitregister> calls) {
+        String got = Answers.ofAll(() -> {
+            Orbitregister x = made.get();
+            calls.accept(x);
+            return x;
+        });
+        same(what + " changes nothing:", got, Answers.ofAll(made));
+    }
+
+    private static int[] outside(int low, int high) {
+        return new int[] {low - 1, high + 1, Integer.MIN_VALUE, Integer.MAX_VALUE};
+    }
+
     private static void refused(String what, Class<? extends RuntimeException> want,
             Supplier<Orbitregister> made, Consumer<Orbitregister> call) {
-        Orbitregister called = made.get();
-        thrown(what, want, () -> call.accept(called));
-        same(what + " changes nothing:", Answers.of(called), Answers.of(made.get()));
+        checked++;
+        Class<?> got = thrownBy(made.get(), call);
+        // the very class is due: the machine's own exceptions are classes below
+        if (got != want) {
+            tell(what + " threw " + got + ", due is " + want);
+        }
+        unchanged(what, made, x -> thrownBy(x, call));
+    }
+
+    private static Class<?> thrownBy(Orbitregister x, Consumer<Orbitregister> call) {
+        try {
+            call.accept(x);
+        } catch (RuntimeException e) {
+            return e.getClass();
+        }
+        return null;
     }
 
     static void end(String test) {
-        System.out.println(test + ": " + checked + " checked, " + wrong + " wrong");
+        String told = sentences == 0 ? "" : sentences + " sentences, ";
+        System.out.println(test + ": " + told + checked + " checked, " + wrong + " wrong");
         if (wrong != 0) {
             System.exit(1);
         }
@@ -71,7 +116,7 @@ final class Due {
     private static void tell(String text) {
         wrong++;
         if (wrong <= 20) {
-            System.out.println(text);
+            System.out.println(sentence + text);
         }
     }
 }
